@@ -23,6 +23,7 @@ public final class VectorPens {
     private final Stroke spare = new Stroke();
     private final History history = new History();
     private final Thinning thinning = new Thinning();
+    private final Welding welding = new Welding();
     private final Text text = new Text();
     private int failure = NONE;
     private int failedStroke = NONE;
@@ -107,12 +108,12 @@ public final class VectorPens {
             return BAD_VALUE;
         }
         history.save(now);
-        return Ends.weldEnds(now, reach);
+        return welding.weldEnds(now, reach);
     }
 
     public int joinAll() {
         history.save(now);
-        Ends.joinEnds(now);
+        Joining.joinEnds(now);
         return now.count;
     }
 
@@ -355,8 +356,8 @@ public final class VectorPens {
             return BAD_VALUE;
         }
         trial.copyFrom(now);
-        Ends.weldEnds(trial, reach);
-        Ends.joinEnds(trial);
+        welding.weldEnds(trial, reach);
+        Joining.joinEnds(trial);
         return trial.count;
     }
 
@@ -448,8 +449,11 @@ public final class VectorPens {
         hash = 31 * hash + now.count;
         for (int i = 0; i < now.count; i++) {
             Stroke s = now.find(i);
-            if (s != null) {
-                hash = hashOfStroke(hash, s);
+            for (int what = 0; s != null && what <= 9; what++) {
+                hash = 31 * hash + Measures.figure(s, what);
+            }
+            for (int k = 0; s != null && k < s.count; k++) {
+                hash = 31 * hash + s.at(k);
             }
         }
         for (int i = 0; i < now.count; i++) {
@@ -460,17 +464,6 @@ public final class VectorPens {
                     hash = 31 * hash + Measures.crossingsOfTwo(a, b);
                 }
             }
-        }
-        return hash;
-    }
-
-    private static long hashOfStroke(long before, Stroke s) {
-        long hash = before;
-        for (int what = 0; what <= 9; what++) {
-            hash = 31 * hash + Measures.figure(s, what);
-        }
-        for (int i = 0; i < s.count; i++) {
-            hash = 31 * hash + s.at(i);
         }
         return hash;
     }
@@ -497,10 +490,6 @@ public final class VectorPens {
             int dx = xOf(p) - xOf(q);
             int dy = yOf(p) - yOf(q);
             return dx * dx + dy * dy;
-        }
-
-        static int middle(int p, int q) {
-            return told((xOf(p) + xOf(q)) / 2, (yOf(p) + yOf(q)) / 2);
         }
 
         /** Positive, negative or 0: the side of the line from a to b on which p lies. */
@@ -819,54 +808,120 @@ public final class VectorPens {
         }
     }
 
-    /** Welding and joining. The end 2 * k is the first point of stroke k, the end 2 * k + 1 its last one. */
-    static final class Ends {
-        private static final int MAX_WELDS = 1000000;
+    /** Welding, on rows of the ends' own: thousands of pairs may have to be taken in one call. */
+    static final class Welding {
+        private static final int MAX_ENDS = 2 * MAX_STROKES;
+        // Each pair that is taken makes the sum of the squares of all coordinates less by 1 at least,
+        // and this sum is less than 20 * 2 * 1000 * 1000.
+        private static final int MAX_WELDS = 40000000;
 
-        /** It comes to an end: each pair that is taken makes the sum of the squares of all coordinates less. */
-        static int weldEnds(Drawing d, int reach) {
+        // The ends 2 * k and 2 * k + 1 are those of the open stroke number k, which has sizes[2 * k] points.
+        private final int[] xs = new int[MAX_ENDS];
+        private final int[] ys = new int[MAX_ENDS];
+        private final int[] besides = new int[MAX_ENDS];
+        private final int[] sizes = new int[MAX_ENDS];
+        private int count;
+
+        int weldEnds(Drawing d, int reach) {
+            takeEnds(d);
             int taken = 0;
-            while (taken < MAX_WELDS && weldNearest(d, reach * reach)) {
+            while (taken < MAX_WELDS && weldNearest(reach * reach)) {
                 taken++;
             }
+            giveEnds(d);
             return taken;
         }
 
-        private static boolean weldNearest(Drawing d, int squaredReach) {
+        private void takeEnds(Drawing d) {
+            count = 0;
+            for (int i = 0; i < d.count; i++) {
+                Stroke s = d.find(i);
+                if (s != null && !s.closed) {
+                    addEnd(s.firstPoint(), s.at(1), s.count);
+                    addEnd(s.lastPoint(), s.at(s.count - 2), s.count);
+                }
+            }
+        }
+
+        private void addEnd(int p, int beside, int size) {
+            if (count >= 0 && count < MAX_ENDS) {
+                xs[count] = Plane.xOf(p);
+                ys[count] = Plane.yOf(p);
+                besides[count] = beside;
+                sizes[count] = size;
+                count++;
+            }
+        }
+
+        private void giveEnds(Drawing d) {
+            int end = 0;
+            for (int i = 0; i < d.count; i++) {
+                Stroke s = d.find(i);
+                if (s != null && !s.closed && end + 1 < MAX_ENDS) {
+                    s.put(0, Plane.told(xs[end], ys[end]));
+                    s.put(s.count - 1, Plane.told(xs[end + 1], ys[end + 1]));
+                    end += 2;
+                }
+            }
+        }
+
+        private boolean weldNearest(int squaredReach) {
+            int n = Math.min(count, MAX_ENDS);
             int least = squaredReach + 1;
-            int first = NONE;
-            int second = NONE;
-            for (int i = 0; i < 2 * d.count; i++) {
-                for (int j = i + 1; isOpenEnd(d, i) && j < 2 * d.count; j++) {
-                    int distance = Plane.squaredDistance(endOf(d, i), endOf(d, j));
-                    if (distance > 0 && distance < least && mayWeld(d, i, j)) {
+            int first = 0;
+            int second = 0;
+            // No distance is less than 1, and of several pairs the first one is taken.
+            for (int i = 0; i < n && least > 1; i++) {
+                for (int j = i + 1; j < n && least > 1; j++) {
+                    int dx = xs[i] - xs[j];
+                    int dy = ys[i] - ys[j];
+                    int distance = dx * dx + dy * dy;
+                    if (distance < least && distance > 0 && mayWeld(i, j)) {
                         least = distance;
                         first = i;
                         second = j;
                     }
                 }
             }
-            if (first == NONE) {
+            if (least > squaredReach) {
                 return false;
             }
-            int middle = Plane.middle(endOf(d, first), endOf(d, second));
-            putEnd(d, first, middle);
-            putEnd(d, second, middle);
+            int x = middle(xs[first], xs[second]);
+            int y = middle(ys[first], ys[second]);
+            putEnd(first, x, y);
+            putEnd(second, x, y);
             return true;
         }
 
-        private static boolean mayWeld(Drawing d, int first, int second) {
-            if (!isOpenEnd(d, first) || !isOpenEnd(d, second)) {
-                return false;
-            }
-            Stroke s = d.find(first >> 1);
-            if ((first >> 1) == (second >> 1) && (s == null || s.count < 4)) {
-                return false;
-            }
-            int middle = Plane.middle(endOf(d, first), endOf(d, second));
-            return middle != besideEnd(d, first) && middle != besideEnd(d, second);
+        private static int middle(int a, int b) {
+            return (a + b) / 2;
         }
 
+        /** For two numbers of ends that are in their range. */
+        private boolean mayWeld(int i, int j) {
+            if ((i >> 1) == (j >> 1) && sizes[i] < 4) {
+                return false;
+            }
+            int p = Plane.told(middle(xs[i], xs[j]), middle(ys[i], ys[j]));
+            return p != besides[i] && p != besides[j];
+        }
+
+        private void putEnd(int end, int x, int y) {
+            if (end < 0 || end >= MAX_ENDS) {
+                return;
+            }
+            xs[end] = x;
+            ys[end] = y;
+            int other = end ^ 1;
+            // In a stroke of 2 points the ends are next to each other.
+            if (sizes[end] == 2 && other < MAX_ENDS) {
+                besides[other] = Plane.told(x, y);
+            }
+        }
+    }
+
+    /** Joining. The end 2 * k is the first point of stroke k, the end 2 * k + 1 its last one. */
+    static final class Joining {
         static void joinEnds(Drawing d) {
             // Each joining leaves one open stroke less.
             for (int n = 0; n < MAX_STROKES && joinFirst(d); n++) {
@@ -926,21 +981,6 @@ public final class VectorPens {
                 return 0;
             }
             return (end & 1) == 0 ? s.firstPoint() : s.lastPoint();
-        }
-
-        private static int besideEnd(Drawing d, int end) {
-            Stroke s = d.find(end >> 1);
-            if (s == null) {
-                return 0;
-            }
-            return (end & 1) == 0 ? s.at(1) : s.at(s.count - 2);
-        }
-
-        private static void putEnd(Drawing d, int end, int p) {
-            Stroke s = d.find(end >> 1);
-            if (s != null) {
-                s.put((end & 1) == 0 ? 0 : s.count - 1, p);
-            }
         }
     }
 

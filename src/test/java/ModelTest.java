@@ -26,27 +26,34 @@ final class ModelTest {
 
     private int place() {
         if (upTo(60) == 0) {
-            return upTo(2) == 0 ? -1 - upTo(3) : 1000 + upTo(3);
+            int[] outside = {-1, 1000, Integer.MIN_VALUE, Integer.MAX_VALUE};
+            return outside[upTo(outside.length)];
         }
         return upTo(25) == 0 ? upTo(1000) : Math.min(999, upTo(size));
     }
 
     private int stroke() {
-        int outside = upTo(30);
-        if (outside < 2) {
-            return outside == 0 ? -1 : model.strokes();
+        int[] outside = {-1, model.strokes(), Integer.MIN_VALUE, Integer.MAX_VALUE};
+        int odd = upTo(15 * outside.length);
+        if (odd < outside.length) {
+            return outside[odd];
         }
         return upTo(Math.max(1, model.strokes()));
     }
 
     private int reach() {
-        int[] edges = {0, 1, 2, 3, 999, 1000};
+        int[] edges = {0, 1, 2, 3, 999, 1000, Integer.MIN_VALUE, Integer.MAX_VALUE};
         return upTo(4) == 0 ? edges[upTo(edges.length)] : 1 + upTo(Math.min(999, size));
     }
 
     private int tolerance() {
-        int[] edges = {-1, 0, 1, 200, 201};
+        int[] edges = {-1, 0, 1, 200, 201, Integer.MIN_VALUE, Integer.MAX_VALUE};
         return upTo(5) == 0 ? edges[upTo(edges.length)] : upTo(Math.min(201, size));
+    }
+
+    private int shift() {
+        int[] edges = {-999, 999, -1000, 1000, Integer.MIN_VALUE, Integer.MAX_VALUE};
+        return upTo(12) == 0 ? edges[upTo(edges.length)] : upTo(2 * size) - size;
     }
 
     private void same(String call, long got, long want) {
@@ -143,8 +150,8 @@ final class ModelTest {
             }
             case 2 -> same("joinAll()", pens.joinAll(), model.joinAll());
             case 3 -> {
-                int dx = upTo(30) == 0 ? 2000 * upTo(2) - 1000 : upTo(2 * size) - size;
-                int dy = upTo(30) == 0 ? 2000 * upTo(2) - 1000 : upTo(2 * size) - size;
+                int dx = shift();
+                int dy = shift();
                 same("move(" + s + ", " + dx + ", " + dy + ")", pens.move(s, dx, dy), model.move(s, dx, dy));
             }
             case 4 -> {

@@ -104,13 +104,8 @@ final class PromiseTest {
         nearly.remove(9);
         due("down(0, 0) with nine", nearly.down(0, 0), 9);
         nearly.undo();
-        VectorPens both = full();
-        both.remove(0);
-        both.down(500, 500);
-        both.split(0, 0);
-        type(both, "0,0-1,1");
-        both.read();
-        due("down with the pen down and nine strokes", both.down(0, 0), NOT_POSSIBLE);
+        VectorPens both = tenAndPenDown();
+        due("down(0, 0) with the pen down and ten strokes", both.down(0, 0), NOT_POSSIBLE);
     }
 
     private static void draw() {
@@ -155,10 +150,10 @@ final class PromiseTest {
         x.draw(8, 8);
         due("lift()", x.lift(), 1);
         points(x, 1, 9009, 8008);
-        VectorPens y = nineAndPenDown();
+        VectorPens y = tenAndPenDown();
         due("lift() with ten strokes and one point", y.lift(), NONE);
         due("line()", y.line(), 0);
-        VectorPens z = nineAndPenDown();
+        VectorPens z = tenAndPenDown();
         z.draw(1, 0);
         due("lift() with ten strokes and two points", z.lift(), LIMIT);
         due("line()", z.line(), 2);
@@ -167,7 +162,7 @@ final class PromiseTest {
     }
 
     /** Ten strokes, the tenth of which came from a split while the pen was down with one point. */
-    private static VectorPens nineAndPenDown() {
+    private static VectorPens tenAndPenDown() {
         VectorPens x = drawn("0,0-1,1-2,2;1,0-2,1;2,0-3,1;3,0-4,1;4,0-5,1", "5,0-6,1;6,0-7,1;7,0-8,1;8,0-9,1");
         x.down(0, 0);
         due("split(0, 1)", x.split(0, 1), 10);
@@ -211,6 +206,11 @@ final class PromiseTest {
         VectorPens slant = drawn("0,0-1,1-2,5-4,4");
         due("simplify(0, 2): 12 / root(32) is more than 2", slant.simplify(0, 2), 3);
         due("simplify(0, 3)", slant.simplify(0, 3), 2);
+        VectorPens close = drawn("0,0-0,3-1,1;0,0-1,1-2,0");
+        due("simplify(0, 3)", close.ifSimplified(0, 3), 2);
+        due("simplify(0, 2): 3 / root(2) is just more than 2", close.simplify(0, 2), 3);
+        due("simplify(1, 0): 1 is more than 0", close.simplify(1, 0), 3);
+        due("simplify(1, 1)", close.simplify(1, 1), 2);
         loops();
         closedOnes();
     }
@@ -237,6 +237,10 @@ final class PromiseTest {
         VectorPens y = drawn("0,0-9,9-9,18-18,9z");
         due("simplify(0, 8)", y.simplify(0, 8), 3);
         points(y, 0, 0, 9018, 18009);
+        // Of (40, 30) and (30, 40), which are both 50 away, the first one is kept.
+        VectorPens two = drawn("0,0-40,30-30,40-0,45z");
+        due("simplify(0, 14)", two.simplify(0, 14), 3);
+        points(two, 0, 0, 40030, 45);
         // The piece around from the farthest one to the first one: (0, 8) is on the other side.
         VectorPens z = drawn("0,0-10,0-5,1-0,8z");
         due("simplify(0, 3)", z.simplify(0, 3), 3);
@@ -260,6 +264,16 @@ final class PromiseTest {
         due("undo()", x.undo(), 2);
         points(x, 0, 0, 10000);
         due("undo() of a weld() that took nothing", x.undo(), 1);
+        VectorPens near = drawn("0,500-10,500;11,500-30,500");
+        due("weld(1)", near.weld(1), 1);
+        VectorPens far = drawn("0,0-500,999;999,0-999,999");
+        due("weld(498)", far.weld(498), 0);
+        due("weld(499)", far.weld(499), 1);
+        points(far, 0, 0, 749999);
+        points(far, 1, 999000, 749999);
+        VectorPens farthest = drawn("0,0-500,500-0,0;999,0-500,500-999,0");
+        due("weld(998)", farthest.weld(998), 0);
+        Check.holds("weld(999) takes pairs", farthest.weld(999) > 0);
         VectorPens slant = drawn("0,0-10,10;13,15-50,50");
         due("weld(5): the distance is root(34)", slant.weld(5), 0);
         due("weld(6)", slant.weld(6), 1);
@@ -424,6 +438,9 @@ final class PromiseTest {
         VectorPens far = drawn("0,0-0,1;999,999-999,998");
         due("move(0, 999, 998)", far.move(0, 999, 998), 999998);
         due("move(1, -999, -998)", far.move(1, -999, -998), 1);
+        VectorPens low = drawn("0,0-1,0;0,999-1,999");
+        due("move(0, 0, 999)", low.move(0, 0, 999), 999);
+        due("move(1, 0, -999)", low.move(1, 0, -999), 0);
     }
 
     private static void turn() {
@@ -504,6 +521,11 @@ final class PromiseTest {
         due("split(1, 0) of a closed stroke", closed.split(1, 0), 2);
         points(closed, 1, 10010, 20010, 20020, 10020, 10010);
         due("split(1, 4)", closed.split(1, 4), NOT_POSSIBLE);
+        VectorPens behind = drawn(SQUARE + ";1,1-2,2-3,3");
+        behind.simplify(0, 0);
+        due("split(1, 1) behind a change of a closed stroke", behind.split(1, 1), 3);
+        due("of(2, 1)", behind.of(2, 1), 0);
+        points(behind, 2, 2002, 3003);
         splitLimits();
     }
 
@@ -637,6 +659,7 @@ final class PromiseTest {
         due("crossings(2, 3), parallel", apart.crossings(2, 3), 0);
         due("crossings(2, 4), a touch", apart.crossings(2, 4), 0);
         due("crossings(3, 4), too short", apart.crossings(3, 4), 0);
+        due("crossings(4, 2), a touch", apart.crossings(4, 2), 0);
         VectorPens wide = drawn("0,0-999,999;0,999-999,0;0,1-999,998");
         due("crossings(0, 1)", wide.crossings(0, 1), 1);
         due("crossings(0, 2)", wide.crossings(0, 2), 1);
@@ -738,6 +761,10 @@ final class PromiseTest {
         due("digest()", x.digest(), before);
         due("undo(): nothing more was saved", x.undo(), 0);
         due("ifWelded(999) of nothing", x.ifWelded(999), 0);
+        VectorPens near = drawn("0,0-10,0;11,0-30,0");
+        due("ifWelded(1)", near.ifWelded(1), 1);
+        VectorPens apart = drawn("0,0-0,9;999,0-999,9;0,500-0,501");
+        due("ifWelded(10)", apart.ifWelded(10), 3);
     }
 
     private static void type() {
