@@ -289,12 +289,12 @@ public final class VectorPens {
         }
         int place = Plane.told(x, y);
         int best = NONE;
-        int least = Integer.MAX_VALUE;
+        int least = 0;
         for (int stroke = 0; stroke < now.count; stroke++) {
             Stroke s = now.find(stroke);
             for (int i = 0; s != null && i < s.count; i++) {
                 int distance = Plane.squaredDistance(place, s.at(i));
-                if (distance < least) {
+                if (best == NONE || distance < least) {
                     least = distance;
                     best = 100 * stroke + i;
                 }

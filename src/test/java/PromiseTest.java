@@ -394,6 +394,10 @@ final class PromiseTest {
         due("joinAll(), three sides", parts.joinAll(), 1);
         due("of(0, 1)", parts.of(0, 1), 1);
         due("of(0, 0)", parts.of(0, 0), 3);
+        VectorPens ring = drawn("0,0-1,0;1,0-2,0;2,0-3,0;3,0-4,0;4,0-5,1", "5,1-4,2;4,2-3,2;3,2-2,2;2,2-1,2;1,2-0,0");
+        due("joinAll(), ten parts of a ring", ring.joinAll(), 1);
+        due("of(0, 0)", ring.of(0, 0), 10);
+        due("of(0, 1)", ring.of(0, 1), 1);
         VectorPens closed = drawn("0,0-9,0-9,9z;0,0-5,5");
         due("joinAll(), a closed stroke", closed.joinAll(), 2);
     }
