@@ -1,60 +1,6 @@
 /** Each promise of the document with ordinary inputs, the edges that it names, and wrong inputs. */
-final class PromiseTest {
-    private static final int NO_SUCH = VectorPens.NO_SUCH;
-    private static final int BAD_VALUE = VectorPens.BAD_VALUE;
-    private static final int NOT_POSSIBLE = VectorPens.NOT_POSSIBLE;
-    private static final int LIMIT = VectorPens.LIMIT;
-    private static final int BAD_TEXT = VectorPens.BAD_TEXT;
-    private static final int NONE = VectorPens.NONE;
-    private static final int MIN = Integer.MIN_VALUE;
-    private static final int MAX = Integer.MAX_VALUE;
-    private static final String SQUARE = "10,10-20,10-20,20-10,20z";
-
-    private static String promise = "";
-
+final class PromiseTest extends Bench {
     private PromiseTest() {
-    }
-
-    private static void due(String call, long got, long want) {
-        Check.due(promise + ": " + call, got, want);
-    }
-
-    private static void type(VectorPens x, String text) {
-        x.clearText();
-        for (int i = 0; i < text.length(); i++) {
-            x.type(text.charAt(i));
-        }
-    }
-
-    private static VectorPens drawn(String... texts) {
-        VectorPens x = new VectorPens();
-        for (String text : texts) {
-            type(x, text);
-            Check.holds("it can be read: " + text, x.read() > 0);
-        }
-        return x;
-    }
-
-    /** Draws a stroke of so many points, from (0, y) on: a zigzag between y and y + 1. */
-    private static void zigzag(VectorPens x, int points, int y) {
-        x.down(0, y);
-        for (int i = 1; i < points; i++) {
-            x.draw(i, y + i % 2);
-        }
-        x.lift();
-    }
-
-    private static void points(VectorPens x, int stroke, int... want) {
-        due("of(" + stroke + ", 0)", x.of(stroke, 0), want.length);
-        for (int i = 0; i < want.length; i++) {
-            due("point(" + stroke + ", " + i + ")", x.point(stroke, i), want[i]);
-        }
-    }
-
-    private static VectorPens full() {
-        VectorPens x = drawn("0,0-1,1;1,0-2,1;2,0-3,1;3,0-4,1;4,0-5,1", "5,0-6,1;6,0-7,1;7,0-8,1;8,0-9,1;9,0-10,1");
-        due("strokes() of a full drawing", x.strokes(), 10);
-        return x;
     }
 
     private static void constants() {
@@ -161,14 +107,6 @@ final class PromiseTest {
         due("lift() with nine strokes", z.lift(), 9);
     }
 
-    /** Ten strokes, the tenth of which came from a split while the pen was down with one point. */
-    private static VectorPens tenAndPenDown() {
-        VectorPens x = drawn("0,0-1,1-2,2;1,0-2,1;2,0-3,1;3,0-4,1;4,0-5,1", "5,0-6,1;6,0-7,1;7,0-8,1;8,0-9,1");
-        x.down(0, 0);
-        due("split(0, 1)", x.split(0, 1), 10);
-        return x;
-    }
-
     private static void line() {
         VectorPens x = new VectorPens();
         due("line()", x.line(), 0);
@@ -273,7 +211,7 @@ final class PromiseTest {
         points(far, 1, 999000, 749999);
         VectorPens farthest = drawn("0,0-500,500-0,0;999,0-500,500-999,0");
         due("weld(998)", farthest.weld(998), 0);
-        Check.holds("weld(999) takes pairs", farthest.weld(999) > 0);
+        holds("weld(999) takes pairs", farthest.weld(999) > 0);
         VectorPens slant = drawn("0,0-10,10;13,15-50,50");
         due("weld(5): the distance is root(34)", slant.weld(5), 0);
         due("weld(6)", slant.weld(6), 1);
@@ -599,12 +537,6 @@ final class PromiseTest {
         due("strokes()", full().strokes(), 10);
     }
 
-    private static void figures(VectorPens x, int stroke, int... want) {
-        for (int what = 0; what < want.length; what++) {
-            due("of(" + stroke + ", " + what + ")", x.of(stroke, what), want[what]);
-        }
-    }
-
     private static void of() {
         VectorPens x = drawn("10,10-20,15-13,40;10,10-20,15-13,40z;13,40-20,15-10,10z");
         due("of(3, 0)", x.of(3, 0), NO_SUCH);
@@ -869,12 +801,6 @@ final class PromiseTest {
         due("point(0, 19)", many.point(0, 19), 9001);
     }
 
-    private static void problems(VectorPens x, int... want) {
-        for (int what = 0; what < want.length; what++) {
-            due("problem(" + what + ")", x.problem(what), want[what]);
-        }
-    }
-
     private static void problem() {
         VectorPens x = new VectorPens();
         problems(x, NONE, NONE, NONE, NO_SUCH);
@@ -939,14 +865,6 @@ final class PromiseTest {
         due("problem(0)", z.problem(0), BAD_TEXT);
     }
 
-    private static long hash(long... values) {
-        long hash = 866;
-        for (long v : values) {
-            hash = 31 * hash + v;
-        }
-        return hash;
-    }
-
     private static void digest() {
         VectorPens x = new VectorPens();
         due("digest()", x.digest(), hash(0, 0));
@@ -963,15 +881,6 @@ final class PromiseTest {
         long before = y.digest();
         y.nearest(1, 1);
         due("digest() again", y.digest(), before);
-    }
-
-    private interface Test {
-        void run();
-    }
-
-    private static void run(String name, Test test) {
-        promise = name;
-        test.run();
     }
 
     public static void main(String[] args) {

