@@ -2,6 +2,12 @@
 final class ModelTest {
     private static final int RUNS = 700;
     private static final int CALLS = 512;
+    private static final int LONGEST_TEXT = 84;
+    // With each character syntaxError() may be asked, and each call of a kind may be the most expensive one in calls.
+    private static final int READING = 2 * LONGEST_TEXT + 10;
+    private static final int DRAWING = 40;
+    private static final int CHANGING = 2;
+    private static final int UNDOING = 14;
     private static final int[] SIZES = {2, 4, 8, 20, 60, 250, 1000};
 
     private final VectorPens pens = new VectorPens();
@@ -102,7 +108,7 @@ final class ModelTest {
                 t.insert(at, wrong.charAt(upTo(wrong.length())));
             }
         }
-        return t.toString();
+        return t.substring(0, Math.min(LONGEST_TEXT, t.length()));
     }
 
     private void readSome() {
@@ -210,12 +216,12 @@ final class ModelTest {
     }
 
     private void play() {
-        int longest = 110;
-        while (calls < CALLS - longest && !Check.failedYet()) {
+        // What a call beyond the last one answers is free, so a kind is only begun if all its calls are left.
+        for (int left = CALLS - UNDOING; left >= CHANGING && !Check.failedYet(); left = CALLS - UNDOING - calls) {
             int kind = upTo(20);
-            if (kind < (style == 0 ? 2 : 1)) {
+            if (kind < (style == 0 ? 2 : 1) && left >= READING) {
                 readSome();
-            } else if (kind < (style == 1 ? 10 : 3)) {
+            } else if (kind < (style == 1 ? 10 : 3) && left >= DRAWING) {
                 drawSome();
             } else if (kind < (style == 2 ? 8 : 13)) {
                 change();

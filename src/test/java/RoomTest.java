@@ -1,9 +1,11 @@
 import java.lang.management.ManagementFactory;
 
-/** All calls of a run live in one room: 512 of the dearest calls stay far inside it. */
+/** All calls of a run live in one room: an object's 512 calls, the dearest ones among them, stay far inside it. */
 final class RoomTest {
     /** The room has some 600,000 objects, each of which takes 16 bytes at least. */
     private static final long ROOM = 600_000L * 16;
+    private static final int CALLS = 512;
+    private static final String TEXT = "0,0-1,1-2,0z";
 
     private final VectorPens x = new VectorPens();
     private int calls;
@@ -26,11 +28,13 @@ final class RoomTest {
     /** Ten strokes of 30 points that cross one another. */
     private void draw() {
         for (int k = 0; k < 10; k++) {
-            x.down(k * 7, k * 90);
+            add(x.down(k * 7, k * 90));
             for (int i = 1; i < 30; i++) {
-                x.draw((k * 137 + i * 379) % 1000, (k * 211 + i * i * 53) % 1000);
+                add(x.draw((k * 137 + i * 379) % 1000, (k * 211 + i * i * 53) % 1000));
             }
-            Check.due("lift()", x.lift(), k);
+            add(x.lift());
+            Check.due("strokes()", x.strokes(), k + 1);
+            calls++;
         }
     }
 
@@ -48,7 +52,7 @@ final class RoomTest {
         for (int i = 0; i < 3; i++) {
             add(x.undo());
         }
-        for (char sign : "0,0-1,1-2,0z".toCharArray()) {
+        for (char sign : TEXT.toCharArray()) {
             add(x.type(sign));
         }
         add(x.syntaxError());
@@ -63,12 +67,12 @@ final class RoomTest {
         RoomTest second = new RoomTest();
         second.dearCalls();
         long once = second.told;
-        while (second.calls < 512) {
+        while (second.calls + 16 + TEXT.length() <= CALLS) {
             second.dearCalls();
         }
         long bytes = allocated() - before;
         Check.due("the same calls on another object", once, first.told);
-        Check.holds(second.calls + " dear calls stay in the room, but for " + bytes + " bytes", bytes < ROOM);
+        Check.holds(second.calls + " calls stay in the room, but for " + bytes + " bytes", bytes < ROOM);
         Check.end("RoomTest");
     }
 }
