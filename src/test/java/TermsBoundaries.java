@@ -588,6 +588,11 @@ final class TermsBoundaries extends Bench {
         points(come, 0, 10000, 14000);
         points(come, 1, 14000, 12000, 500500);
         points(come, 2, 18000, 16000, 600600);
+        VectorPens apart = drawn("10,0-300,300-13,0;15,0-12,0-500,500;18,0-16,0-600,600");
+        due("weld(8): where the other end has come, behind a point between them", apart.weld(8), 2);
+        points(apart, 0, 14000, 300300, 14000);
+        points(apart, 1, 14000, 12000, 500500);
+        points(apart, 2, 14000, 16000, 600600);
         VectorPens gone = drawn("10,0-13,0;15,0-12,0-500,500;17,0-16,0-600,600");
         holds("weld(8): 10 and 17 meet at 13, where it was", gone.weld(8) > 1);
         VectorPens next = drawn("500,500-12,0-10,0;14,0-500,0;4,0-4,500");
